@@ -15,6 +15,7 @@ public final class BoardPromisesTest {
         placeFromReels();
         limits();
         solder();
+        solderInColdZones();
         flaw();
         cover();
         test();
@@ -330,20 +331,26 @@ public final class BoardPromisesTest {
             int due = parts > 3 ? Sparkline.COLD : Sparkline.GOOD;
             Due.is("28 joint with " + parts, due, () -> x.jointAnew(board, 7));
         }
+    }
+
+    private static void solderInColdZones() {
+        Sparkline x = oneBoard();
         x.limits(true, 0, 0, 0);
         x.limits(true, 1, 0, 0);
         x.limits(true, 2, 0, 0);
+        // 12, 6, 3, 1, 0 .. 0, 50, 75, 87
+        Due.is("20 the last zone alone", 87, () -> x.solder(0));
         x.limits(true, 3, 0, 0);
-        int cool = x.board();
-        Due.is("20 rounded down below 0", 12, () -> x.solder(cool));
-        int heavy = x.board();
+        x.board();
+        Due.is("20 rounded down below 0", 12, () -> x.solder(1));
+        x.board();
         for (int slot = 0; slot < 8; slot++) {
-            x.place(heavy, slot, 0);
+            x.place(2, slot, 0);
         }
-        Due.is("20 and heavy", 22, () -> x.solder(heavy));
+        Due.is("20 and heavy", 22, () -> x.solder(2));
         x.limits(true, 3, 400, 0);
-        int late = x.board();
-        Due.is("20 the last zone counts", 350, () -> x.solder(late));
+        x.board();
+        Due.is("20 the last zone told anew", 350, () -> x.solder(3));
     }
 
     private static void flaw() {
@@ -602,9 +609,9 @@ public final class BoardPromisesTest {
         x.limits(false, 0, 0, 400);
         for (int board = 0; board < 3; board++) {
             x.board();
-            x.place(board, 0, 0);
+            x.place(board, 3, 0);
             x.place(board, 7, 0);
-            x.place(board, 6, board);
+            x.place(board, 0, board);
             x.solder(board);
             x.test(board);
         }
@@ -613,9 +620,9 @@ public final class BoardPromisesTest {
         Due.is("29 one, though in two slots", 1, () -> x.recall(0));
         Due.is("29 its other reel", 1, () -> x.recall(1));
         Due.is("29 not its reel", 0, () -> x.recall(2));
-        x.flaw(2, 6);
+        x.flaw(2, 0);
         x.test(2);
-        x.repair(2, 6, 1);
+        x.repair(2, 0, 1);
         x.test(2);
         x.ship(2);
         Due.is("29 the reel it was repaired from", 2, () -> x.recall(1));

@@ -364,6 +364,7 @@ public final class HarnessPromisesTest {
             x.wire(0, node, node, 0, node - 1);
         }
         x.order(1, 10);
+        Due.is("11 leastAnew asked first", 100, () -> x.leastAnew(2));
         leasts(x, 100, 100, 100, 100, 100);
         x.order(2, 1);
         leasts(x, 220, 110, 110, 110, 110);
