@@ -41,7 +41,7 @@ public final class Sparkline {
 
     public Sparkline() {
         harness = new Harness();
-        orders = new Orders(harness);
+        orders = new Orders();
         crimper = new Crimper();
         oven = new Oven();
         reels = new ArrayList<Reel>();
@@ -119,12 +119,12 @@ public final class Sparkline {
 
     public int least(int families) throws IllegalArgumentException {
         checkArgument(isWithin(families, 1, MOST_ORDERS));
-        return orders.leastByChoice(families);
+        return orders.leastByChoice(harness, families);
     }
 
     public int leastAnew(int families) throws IllegalArgumentException {
         checkArgument(isWithin(families, 1, MOST_ORDERS));
-        return orders.leastByTable(families);
+        return orders.leastByTable(harness, families);
     }
 
     // ---- crimps, reels
@@ -586,7 +586,6 @@ public final class Sparkline {
         private static final int NO_WEIGHT = 1000000000;
         private static final int SETS = 1 << MOST_ORDERS;
 
-        private final Harness harness;
         private final Row options = new Row(MOST_ORDERS);
         private final Row many = new Row(MOST_ORDERS);
         /** The weight of each set of orders built as one family, found at the beginning of each question. */
@@ -594,10 +593,6 @@ public final class Sparkline {
         /** The least weight of each set of orders with the families so far. */
         private final Row leasts = new Row(SETS);
         int count;
-
-        Orders(Harness harness) {
-            this.harness = harness;
-        }
 
         int add(int ofOptions, int howMany) {
             options.put(count, ofOptions);
@@ -610,14 +605,14 @@ public final class Sparkline {
             return (1 << count) - 1;
         }
 
-        private void weighSets() {
+        private void weighSets(Harness harness) {
             int all = allOrders();
             for (int set = 0; set <= all; set++) {
-                weights.put(set, weightAsOne(set));
+                weights.put(set, weightAsOne(harness, set));
             }
         }
 
-        private int weightAsOne(int set) {
+        private int weightAsOne(Harness harness, int set) {
             int together = 0;
             int harnesses = 0;
             for (int number = 0; number < count; number++) {
@@ -629,8 +624,8 @@ public final class Sparkline {
             return harness.weightOf(together) * harnesses;
         }
 
-        int leastByChoice(int families) {
-            weighSets();
+        int leastByChoice(Harness harness, int families) {
+            weighSets(harness);
             return leastOfRest(weights, allOrders(), families);
         }
 
@@ -653,8 +648,8 @@ public final class Sparkline {
             return least;
         }
 
-        int leastByTable(int families) {
-            weighSets();
+        int leastByTable(Harness harness, int families) {
+            weighSets(harness);
             leasts.fill(NO_WEIGHT);
             leasts.put(0, 0);
             for (int family = 1; family <= families; family++) {
