@@ -351,6 +351,9 @@ public final class BoardPromisesTest {
         x.limits(true, 3, 400, 0);
         x.board();
         Due.is("20 the last zone told anew", 350, () -> x.solder(3));
+        x.limits(true, 3, 0, 400);
+        x.board();
+        Due.is("19 an upper limit of a zone does not matter", 12, () -> x.solder(4));
     }
 
     private static void flaw() {
@@ -448,6 +451,7 @@ public final class BoardPromisesTest {
         x.test(0);
         Due.state("24 no part, no fault", () -> x.repair(0, 6, 1));
         x.pass(30);
+        x.limits(false, 0, 0, 400);
         Due.is("24 six are left", 6, () -> x.repair(0, 0, 1));
         Due.is("16 taken from the reel", 8, () -> x.ofReel(1, 1));
         Due.is("27 reel", 1, () -> x.ofSlot(0, 0, 0));
@@ -552,6 +556,8 @@ public final class BoardPromisesTest {
         x.place(0, 0, 0);
         Due.is("27 reel", 0, () -> x.ofSlot(0, 0, 0));
         Due.is("27 minute 0", 0, () -> x.ofSlot(0, 0, 1));
+        x.pass(5);
+        Due.is("27 the minute in which it was placed", 0, () -> x.ofSlot(0, 0, 1));
         Due.is("27 the next slot", NONE, () -> x.ofSlot(0, 1, 0));
         x.board();
         Due.is("27 the next board", NONE, () -> x.ofSlot(1, 0, 0));

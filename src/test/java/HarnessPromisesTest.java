@@ -120,10 +120,12 @@ public final class HarnessPromisesTest {
         Due.state("4 the same pair again", () -> x.mates(0, 4));
         Due.argument("4 the same ahead of mate", () -> x.mates(0, 0));
         Due.is("4 second pair", 4, () -> x.mates(1, 5));
-        x.connector(5, 4, 2);
+        x.connector(0, 4, 2);
         Due.is("4 another key's pair", 4, () -> x.mates(2, 6));
         x.connector(5, 3, 1);
         Due.is("4 the last pair", 4, () -> x.mates(7, 3));
+        Due.is("5 a mate is wired to another one", 0, () -> x.wire(0, 0, 5, 0, 0));
+        Due.is("5 to one that does not fit", 1, () -> x.wire(4, 1, 6, 1, 0));
     }
 
     private static void wireRefuses() {
@@ -294,6 +296,10 @@ public final class HarnessPromisesTest {
         Due.state("6 still pulled", () -> x.pull(0));
         Due.state("6 and not free", () -> x.wire(0, 0, 1, 2, 0));
         Due.is("6 weighs again", 5, () -> x.weight(255));
+        x.wire(0, 7, 1, 6, 0);
+        x.pull(1);
+        Due.state("6 a cavity of another wire stays taken", () -> x.wire(0, 7, 1, 0, 0));
+        Due.state("6 and that of the other connector", () -> x.wire(0, 0, 1, 6, 0));
     }
 
     private static void ofWire() {
@@ -332,6 +338,12 @@ public final class HarnessPromisesTest {
         Due.is("8 two wires of an option", 12, () -> x.weight(1));
         x.pull(0);
         Due.is("8 without the pulled one", 12 + 4, () -> x.weight(7));
+        x.bundle(0, 7, 1, 24);
+        Due.is("8 a shorter bundle told later changes none", 128, () -> x.weight(128));
+        Due.is("7 nor the length of a wire", 128, () -> x.ofWire(6, -1));
+        Due.is("6 nor what it answers", 128, () -> x.pull(6));
+        Due.is("5 it is for the next one", 9, () -> x.wire(0, 7, 7, 0, 7));
+        Due.is("8 by the shorter one", 1, () -> x.weight(128));
     }
 
     private static void order() {
